@@ -26,6 +26,7 @@ public final class FlatBoxesPromises {
         bag();
         into();
         counted();
+        countedWithOneLess();
         raised();
         pallets();
         toldAndForgotten();
@@ -507,6 +508,19 @@ public final class FlatBoxesPromises {
             y.into(0, 1000, 1000, 1000);
         }
         dueCounted(y, 0, new int[][] {{0, 2}, {12000000, 2}, {12000001, 0}, {MOST, 0}});
+    }
+
+    /** Promise 13: one piece less only of a kind that has one. */
+    private static void countedWithOneLess() {
+        FlatBoxes x = new FlatBoxes(0);
+        x.bag();
+        x.into(0, 1, 1000, 10);
+        x.into(0, 0, 15, 0);
+        dueCounted(x, 0, new int[][] {{989, 0}, {990, 1}, {1004, 1}, {1005, 2}, {1010, 2}, {1011, 0}});
+        x.bag();
+        x.into(1, 1, 1000, 10);
+        x.into(1, 1, 15, 0);
+        dueCounted(x, 1, new int[][] {{1004, 0}, {1005, 2}, {1010, 2}, {1011, 1}, {1019, 1}, {1020, 2}, {1025, 2}, {1026, 0}});
     }
 
     /** Promise 14. */
