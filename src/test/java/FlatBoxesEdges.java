@@ -81,7 +81,7 @@ public final class FlatBoxesEdges {
 
         private void tellParts(FlatBoxes x) {
             int[][] all = {{20, 20, 5, 100, 3}, {9, 10, 4, 200, 1}, {10, 20, 4, 300, 2}, {40, 30, 15, 900, 0},
-                {20, 20, 5, 150, 3}, {5, 5, 5, 700, 50}, {6, 6, 3, 10, 10}, {7, 7, 3, 20, 0}};
+                {20, 20, 5, 150, 3}, {5, 5, 5, 700, 50}, {15, 6, 3, 10, 10}, {7, 7, 3, 20, 0}};
             if (this == UNSHARED) {
                 all[4] = new int[] {41, 1, 1, 1, 1};
             }
@@ -93,10 +93,10 @@ public final class FlatBoxesEdges {
             }
         }
 
-        /** Each bag with kinds weighs 71, and may differ by 10. */
+        /** Each bag weighs 1502 .. 1522; less its last kind 1495 .. 1505, with one more of that 1509 .. 1539. */
         private void tellBags(FlatBoxes x) {
-            int[][] two = {{10, 5, 1}, {3, 7, 0}};
-            int[][] six = {{2, 5, 1}, {2, 7, 0}, {1, 9, 3}, {1, 11, 1}, {1, 13, 2}, {1, 14, 2}};
+            int[][] two = {{5, 300, 1}, {1, 12, 5}};
+            int[][] six = {{1, 1000, 2}, {0, 900, 0}, {0, 800, 0}, {1, 500, 3}, {0, 600, 0}, {1, 12, 5}};
             for (int bag = 0; bag < bags; bag++) {
                 x.bag();
                 for (int[] kind : bags == 4 ? six : two) {
@@ -132,15 +132,18 @@ public final class FlatBoxesEdges {
         for (int time = 0; time < 3; time++) {
             due(state + ": " + what, want, answer(met, call));
         }
-        List<String> seen = seen(met);
-        seen.addAll(goOn(met));
-        seen.addAll(seen(met));
-        List<String> wanted = seen(other);
-        wanted.addAll(goOn(other));
-        wanted.addAll(seen(other));
-        dueSame(state + " after " + what, wanted, seen);
+        List<String> seen = allToCome(met);
+        dueSame(state + " after " + what, allToCome(other), seen);
         // Making the state takes fewer than 50 calls.
         due("calls of one object are within 512", true, seen.size() + 50 <= MOST_CALLS);
+    }
+
+    private static List<String> allToCome(FlatBoxes x) {
+        List<String> seen = seen(x);
+        seen.addAll(runAnew(x));
+        seen.addAll(goOn(x));
+        seen.addAll(seen(x));
+        return seen;
     }
 
     private static void dueSame(String when, List<String> wanted, List<String> seen) {
@@ -181,7 +184,7 @@ public final class FlatBoxesEdges {
             for (int set : new int[] {1, 2, 5, 7, 11, 15, 16, 96, 128, 255}) {
                 note(seen, x, "fits " + n + " " + set, y -> y.fits(n, set));
             }
-            for (int grams : new int[] {0, 60, 61, 71, 81, 82}) {
+            for (int grams : new int[] {1501, 1502, 1505, 1506, 1508, 1509, 1522, 1523}) {
                 note(seen, x, "counted " + n + " " + grams, y -> y.counted(n, grams));
             }
             for (int room : new int[] {22, 36}) {
@@ -191,11 +194,27 @@ public final class FlatBoxesEdges {
         return seen;
     }
 
-    /** Tells more until all is full, so that what was counted in secret comes out, and runs. */
-    private static List<String> goOn(FlatBoxes x) {
+    /** New shares by what is held now, before anything else is told. */
+    private static List<String> runAnew(FlatBoxes x) {
         List<String> seen = new ArrayList<>();
         note(seen, x, "fragile off", y -> y.fragile(1, false));
         note(seen, x, "fragile on", y -> y.fragile(1, true));
+        note(seen, x, "run anew", y -> y.run());
+        note(seen, x, "cost anew", y -> y.cost());
+        for (int k = 0; k < 8; k++) {
+            int n = k;
+            note(seen, x, "box anew " + n, y -> y.box(n, 0));
+            for (int what = 0; what < 4; what++) {
+                int w = what;
+                note(seen, x, "at anew " + n + " " + w, y -> y.at(n, w));
+            }
+        }
+        return seen;
+    }
+
+    /** Tells more until all is full, so that what was counted in secret comes out, and runs. */
+    private static List<String> goOn(FlatBoxes x) {
+        List<String> seen = new ArrayList<>();
         for (int k = 0; k <= 4; k++) {
             int n = k;
             note(seen, x, "carton more", y -> y.carton(50 + n, 50, 50, 200 + n, 3000));
@@ -298,7 +317,7 @@ public final class FlatBoxesEdges {
                     ask(x, true, state + ": last carton", y -> y.fits(state.cartons - 1, 2));
                 }
                 if (state.bags > 0) {
-                    ask(x, false, state + ": last bag", y -> y.counted(state.bags - 1, 71) == 0);
+                    ask(x, 1, state + ": last bag", y -> y.counted(state.bags - 1, 1507));
                 }
                 int run = state == State.NEW ? 0 : state == State.TOLD ? 2 : state == State.FULL_TOLD ? 3 : state.boxes;
                 ask(x, run, state + ": run", y -> y.run());
@@ -338,12 +357,22 @@ public final class FlatBoxesEdges {
 
         /** What one object is told is nothing to another. */
         private void objectsAreApart() {
+            List<String> alone = allToCome(State.SHARED.make());
             FlatBoxes x = State.SHARED.make();
-            List<String> before = seen(x);
-            FlatBoxes other = State.FULL.make();
+            FlatBoxes other = new FlatBoxes(9);
+            for (int k = 0; k < 4; k++) {
+                other.carton(90 + k, 91, 92, 93, 94);
+                other.bag();
+                for (int kind = 0; kind < 6; kind++) {
+                    other.into(k, 0, 1, 0);
+                }
+            }
+            for (int k = 0; k < 8; k++) {
+                other.part(80, 81, 30 + k, 47, 50 - k);
+                other.fragile(k, k != 1);
+            }
             other.run();
-            dueSame("after another object's calls", before, seen(x));
-            dueSame("another object", seen(State.FULL.make()), seen(other));
+            dueSame("with another object", alone, allToCome(x));
         }
 
         /** Cartons 1 deep, 1 high, and of 1 cent: what fits lies in one layer. */
@@ -1438,13 +1467,13 @@ public final class FlatBoxesEdges {
         private void countedBagsAndGrams() {
             for (State state : State.values()) {
                 for (int bag : beyond(state.bags)) {
-                    for (int grams : new int[] {0, 71, -1, LEAST, MOST}) {
+                    for (int grams : new int[] {0, 1507, -1, LEAST, MOST}) {
                         leavesAll(state, INDEX, "counted(" + bag + ", " + grams + ")", y -> y.counted(bag, grams));
                     }
                 }
                 for (int bag = 0; bag < state.bags; bag++) {
                     int b = bag;
-                    for (int grams : new int[] {-1, -2, -71, -65536, LEAST + 71, LEAST + 1, LEAST}) {
+                    for (int grams : new int[] {-1, -2, -1507, -65536, LEAST + 1507, LEAST + 1, LEAST}) {
                         leavesAll(state, ARGUMENT, "counted(" + b + ", " + grams + ")", y -> y.counted(b, grams));
                     }
                     leavesAll(state, 0, "counted(" + b + ", 0)", y -> y.counted(b, 0));
