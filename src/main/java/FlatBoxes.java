@@ -507,6 +507,7 @@ public final class FlatBoxes {
             return bestSets[box];
         }
 
+        // A set that fits no carton has NO_PRICE and is never among the best, so this is a carton.
         int cartonFor(int box) {
             return cartonOf[bestSets[box]];
         }

@@ -31,6 +31,7 @@ public final class FlatBoxesPromises {
         pallets();
         toldAndForgotten();
         throwingChangesNothing();
+        exampleOfReadme();
         System.out.println(wrong == 0 ? "all promises hold" : wrong + " answers are not as promised");
         if (wrong != 0) {
             System.exit(1);
@@ -636,5 +637,29 @@ public final class FlatBoxesPromises {
         }
         due("a kind too many", STATE, () -> x.into(0, 1, 10, 10));
         due("the bag is as it was", 1, () -> x.counted(0, 60));
+    }
+
+    /** The calls of README.md, in their order, with what it says of each. */
+    private static void exampleOfReadme() {
+        FlatBoxes x = new FlatBoxes(2);
+        due("README: carton", 0, () -> x.carton(50, 40, 10, 300, 3000));
+        due("README: part 0", 0, () -> x.part(50, 40, 4, 800, 2));
+        due("README: part 1", 1, () -> x.part(24, 40, 3, 300, 1));
+        due("README: part 2", 2, () -> x.part(24, 20, 3, 200, 3));
+        due("README: fragile", true, () -> x.fragile(1, true));
+        due("README: fits", true, () -> x.fits(0, 0b111));
+        due("README: run", 1, x::run);
+        due("README: z", 4, () -> x.at(1, 3));
+        due("README: x", 26, () -> x.at(2, 2));
+        due("README: height", 7, () -> x.box(0, 4));
+        due("README: cost", 300, x::cost);
+        due("README: raised", true, () -> x.raised(0, 42));
+        due("README: pallets", 1, () -> x.pallets(1000000));
+        due("README: manual", 1, () -> x.manual(0));
+        due("README: bag", 0, x::bag);
+        due("README: into", 1, () -> x.into(0, 11, 20, 1));
+        due("README: right", 1, () -> x.counted(0, 220));
+        due("README: unsure", 2, () -> x.counted(0, 230));
+        due("README: not right", 0, () -> x.counted(0, 240));
     }
 }
